@@ -207,7 +207,7 @@ public final class MonitorWays {
     /** One thread in a state of a machine. */
     static final class Worker {
         int status;
-        // In a set, RETURNING or PARKED it still stands at that action, which tells its monitor and whether it has a time.
+        // In a set, RETURNING or PARKED it still stands at that action, for this tells its monitor and its time.
         int place;
         int kept;
         boolean interrupted;
@@ -494,7 +494,9 @@ public final class MonitorWays {
             } else if (action == NOTIFY) {
                 notifyWaiter(monitor, way == 1 ? 0 : monitor.setSize - 1);
             } else if (action == NOTIFY_ALL) {
-                notifyAllOf(monitor);
+                for (int left = monitor.setSize; left > 0; left--) {
+                    notifyWaiter(monitor, 0);
+                }
             } else if (worker.takeInterrupt()) {
                 worker.put(BROKEN_OFF);
             } else {
@@ -509,12 +511,6 @@ public final class MonitorWays {
             workers[t].status = IN_SET;
             monitor.setFree();
             monitor.addWaiter(t);
-        }
-
-        private void notifyAllOf(Monitor monitor) {
-            for (int i = 0; i < THREADS; i++) {
-                notifyWaiter(monitor, 0);
-            }
         }
 
         private void notifyWaiter(Monitor monitor, int k) {
