@@ -29,7 +29,7 @@ public final class FaceTest {
     private static TreeSet<String> seenMethods() {
         TreeSet<String> seen = new TreeSet<>();
         for (Method method : MonitorWays.class.getDeclaredMethods()) {
-            if (!Modifier.isPrivate(method.getModifiers())) {
+            if (!Modifier.isPrivate(method.getModifiers()) && !method.isSynthetic()) {
                 seen.add(method.getReturnType() + " " + method.getName() + types(method.getParameterTypes()));
             }
         }
@@ -39,7 +39,7 @@ public final class FaceTest {
     private static TreeSet<String> seenFields() {
         TreeSet<String> seen = new TreeSet<>();
         for (Field field : MonitorWays.class.getDeclaredFields()) {
-            if (!Modifier.isPrivate(field.getModifiers())) {
+            if (!Modifier.isPrivate(field.getModifiers()) && !field.isSynthetic()) {
                 seen.add(field.getType() + " " + field.getName());
             }
         }
