@@ -235,6 +235,13 @@ public final class FoundEdgesTest extends Scene {
         make(STRICT, does(ENTER, 0, WAIT, 0), does(ENTER, 0, WAIT, 0));
         check.due("explore()", x.explore(), 1);
         counts(9, 2, 0, 2);
+        check.about("explore: all threads in one set, in each order");
+        int[] waiter = does(ENTER, 1, WAIT, 1);
+        make(STRICT, waiter, waiter, waiter, waiter);
+        check.due("explore()", x.explore(), 1);
+        // With k in the set, in order, none of the others owns the monitor or one of them: 5 + 4 * 4 + 12 * 3 + 24 * 2 + 24.
+        counts(129, 24, 0, 4);
+        outcomes(wrapped(19, 19, 19, 19));
     }
 
     private void keptCounts() {
